@@ -388,7 +388,7 @@ public final class PictureLog {
         final int to;
         /** What is filled in or added, or by how much the page is turned. */
         final int amount;
-        /** The values of the cells from the first one on, of a picture and of a row. */
+        /** The values of the cells from the first one on, of a picture and of a row; of others none. */
         final int[] values;
         final boolean damaged;
         final int size;
@@ -401,7 +401,11 @@ public final class PictureLog {
             this.amount = amount;
             this.values = values;
             this.damaged = damaged;
-            this.size = sizeOf(kind, values);
+            if (kind == PICTURE) {
+                this.size = sizeOfPicture(values);
+            } else {
+                this.size = kind == FILL || kind == ADD ? 4 : 3 + values.length;
+            }
         }
 
         static Entry ofCells(int page, int kind, int from, int to, int amount) {
@@ -429,19 +433,6 @@ public final class PictureLog {
             return new Entry(page, kind, from, to, amount, values, true);
         }
 
-        private static int sizeOf(int kind, int[] values) {
-            switch (kind) {
-                case PICTURE:
-                    return sizeOfPicture(values);
-                case TURN:
-                    return 3;
-                case ROW:
-                    return 3 + values.length;
-                default:
-                    return 4;
-            }
-        }
-
         static int sizeOfPicture(int[] cells) {
             int runs = 1;
             for (int cell = 1; cell < cells.length; cell++) {
@@ -449,7 +440,7 @@ public final class PictureLog {
                     runs++;
                 }
             }
-            return 2 + Math.min(CELLS, 2 * runs);
+            return 2 + (2 * runs < CELLS ? 2 * runs : CELLS);
         }
 
         int time() {
@@ -531,8 +522,9 @@ public final class PictureLog {
         }
 
         void replace(int number, Entry entry) {
-            if (holds(number) && number - first < MOST_ENTRIES) {
-                entries[number - first] = entry;
+            int place = number - first;
+            if (number >= first && place < held && place < MOST_ENTRIES) {
+                entries[place] = entry;
             }
         }
 
@@ -676,14 +668,14 @@ public final class PictureLog {
             return found;
         }
 
-        /** An entry that is flushed may be needed after a crash alone, when the later ones are lost. */
+        /** Looks at the flushed entries alone, too: a crash, which takes the others, must find what it needs. */
         boolean isNeeded(int number) {
             Entry entry = log.at(number);
             if (entry == null) {
                 return false;
             }
             return number >= firstNeeded(entry.page, log.next())
-                    || number < log.flushed && number >= firstNeeded(entry.page, log.flushed);
+                    || (number < log.flushed && number >= firstNeeded(entry.page, log.flushed));
         }
 
         int neededEntries() {

@@ -41,6 +41,17 @@ public final class HistoryTest {
         x.fill(0, 0, 11, 9);
         check.due("undo behind a new act", x.undo(), 0);
         check.due("value", x.cell(0, 0), 2);
+        for (int round = 0; round < 3; round++) {
+            for (int value = 0; value < 7; value++) {
+                x.fill(0, 0, 11, value);
+            }
+            check.due("an act that is refused leaves the history", x.setWay(2), -5);
+            check.due("an act that is refused leaves the history", x.damage(x.count(0)), -1);
+            for (int left = 3; left >= 0; left--) {
+                check.due("undo in a later round", x.undo(), left);
+                check.due("value", x.cell(0, 0), left + 2);
+            }
+        }
     }
 
     private static void everyActIsRecorded() {
@@ -81,7 +92,7 @@ public final class HistoryTest {
             case 6: return x.setRoom(40);
             case 7: return x.setRoom(300);
             case 8: return x.store(4);
-            case 9: return x.store(0);
+            case 9: return x.store(1);
             case 10: return x.trim();
             case 11: return x.damage(0);
             case 12: return x.restore();

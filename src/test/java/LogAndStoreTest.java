@@ -15,8 +15,10 @@ public final class LogAndStoreTest {
         crash();
         crashThroughSeveralDamagedEntries();
         crashWithADroppedPicture();
+        crashBehindDroppedEntries();
         doubtIsEnded();
         numbersAreGivenAgain();
+        highNumbers();
         check.end();
     }
 
@@ -325,6 +327,37 @@ public final class LogAndStoreTest {
         x.flush();
         x.crash();
         check.cells("all behind the damaged one", x, 0, "000000000000");
+    }
+
+    private static void crashBehindDroppedEntries() {
+        PictureLog x = withWay(0);
+        x.fill(0, 0, 0, 1);
+        x.fill(0, 11, 11, 2);
+        x.renew(0);
+        x.flush();
+        x.trim();
+        x.fill(0, 4, 4, 3);
+        x.fill(1, 4, 4, 3);
+        check.due("crash", x.crash(), 2);
+        check.due("held", x.count(1), 1);
+        check.due("the next entry", x.count(0), 3);
+        check.cells("the picture, up to its last cell", x, 0, "100000000002");
+    }
+
+    /** Numbers go on far beyond what the log can hold at once. */
+    private static void highNumbers() {
+        PictureLog x = withWay(0);
+        x.setRoom(30);
+        for (int i = 0; i < 120; i++) {
+            check.due("turn " + i, x.turn(i % 6, 1), 3);
+            x.flush();
+            x.store(i % 6);
+        }
+        check.due("the next entry", x.count(0), 120);
+        x.turn(2, 1);
+        check.due("damage(120)", x.damage(120), 1);
+        check.due("damaged", x.entry(120, 6), 1);
+        check.due("another one is not", x.entry(119, 6), 0);
     }
 
     private static PictureLog doubtful() {

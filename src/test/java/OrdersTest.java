@@ -47,7 +47,7 @@ public final class OrdersTest {
             {"0f5-3=1", 4}, {"0f5-3", 4}, {"0f5-1", 4}, {"0f5-1=1", 4}, {"0f5-1x", 4}, {"0f2-12=1", 4},
             {"0f2-1", 4}, {"0f1-0", 4}, {"0f11-10", 6}, {"0f11-10=1", 6}, {"0f11-1", 5}, {"0f11-1=2", 5},
             {"0f10-9", 5}, {"0f11-0", 5}, {"0f11-2", 5}, {"0f1-12=1", 5}, {"0f0-00=1", 5}, {"0f0-01=1", 5},
-            {"0f0-3+1", 5}, {"0f0-3=a", 6}, {"0f0-3=12", 7}, {"0f0-3=-", 6}, {"0f0-11=12", 8},
+            {"0f0-3+1", 5}, {"0f0-3=a", 6}, {"0f0-3=:", 6}, {"0f0-3=/", 6}, {"0f0-3=;", 6}, {"0r3=:", 4}, {"0r3=1:", 5}, {"0t1:", 3}, {"0f0-3=12", 7}, {"0f0-3=-", 6}, {"0f0-11=12", 8},
             {"0a0-3=1", 5}, {"0a0-3+0", 6}, {"0a0-3+x", 6}, {"0a0-3+19", 7}, {"0a4-3+1", 4}, {"0a11-1", 5},
             {"0t0", 2}, {"0t01", 2}, {"0t12", 3}, {"0t20", 3}, {"0t110", 4}, {"0t;", 2}, {"0t1x", 3},
             {"0r;", 2}, {"0r3;", 3}, {"0r3-", 3}, {"0r3=;", 4}, {"0r3=x", 4}, {"0r00=1", 3}, {"0r12=1", 3},
@@ -164,6 +164,11 @@ public final class OrdersTest {
         check.due("only what was typed since", x.readOrders(), 1);
         x.undo();
         check.due("undo leaves the text", x.count(13), 2);
+        String whole = "0f1-11=4";
+        for (int kept = 0; kept < whole.length(); kept++) {
+            Check.read(x, whole);
+            check.due("what was cleared is gone", Check.read(x, whole.substring(0, kept)), -100 - kept);
+        }
     }
 
     private static void everyCharacter() {

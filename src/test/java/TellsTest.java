@@ -11,6 +11,7 @@ public final class TellsTest {
         asOfBehindAPicture();
         asOfBehindTheCopy();
         asOfADroppedEntry();
+        asOfADroppedOlderEntry();
         asOfADamagedEntry();
         asOfErrors();
         wouldLog();
@@ -184,6 +185,24 @@ public final class TellsTest {
         asOfTells(x, 1, 2, "999900000000");
         asOfTells(x, 1, 3, "999988000000");
         asOfTells(x, 0, 3, "111100000000");
+    }
+
+    private static void asOfADroppedOlderEntry() {
+        PictureLog x = withWay(0);
+        x.fill(0, 0, 3, 1);
+        x.flush();
+        x.store(0);
+        check.due("the entry just ahead of the copy is dropped", x.trim(), 1);
+        x.fill(1, 0, 0, 1);
+        asOfTells(x, 0, 1, "111100000000");
+        x.fill(0, 0, 0, 2);
+        x.renew(0);
+        x.flush();
+        x.store(1);
+        check.due("the entry just behind the copy is dropped", x.trim(), 2);
+        x.fill(1, 1, 1, 1);
+        asOfTells(x, 0, 3, "211100000000");
+        asOfTells(x, 1, 3, "100000000000");
     }
 
     private static void asOfADamagedEntry() {

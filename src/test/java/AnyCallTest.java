@@ -5,6 +5,7 @@ import java.util.ArrayList;
 import java.util.Comparator;
 import java.util.List;
 import java.util.Random;
+import java.util.function.Consumer;
 
 /** No call throws, and a call that returns an error or NONE changes nothing, for any arguments in any state. */
 public final class AnyCallTest {
@@ -14,9 +15,25 @@ public final class AnyCallTest {
     private static final Check check = new Check();
     private static final List<Method> METHODS = methods();
 
+    private record Call(Method method, Object[] args) {
+        int on(PictureLog x) {
+            try {
+                return (Integer) method.invoke(x, args);
+            } catch (InvocationTargetException | IllegalAccessException e) {
+                check.holds(method.getName() + List.of(args) + " threw " + e.getCause(), false);
+                return 0;
+            }
+        }
+    }
+
     public static void main(String[] args) {
-        for (long seed = 0; seed < 60; seed++) {
-            run(new Random(seed));
+        check.sentence("A call that returns an error or NONE changes nothing.");
+        for (long seed = 0; seed < 40; seed++) {
+            compare(new Random(seed));
+        }
+        check.sentence("No call may ever throw or fail to end");
+        for (long seed = 0; seed < 200; seed++) {
+            goOn(new Random(seed));
         }
         check.end();
     }
@@ -32,43 +49,73 @@ public final class AnyCallTest {
         return methods;
     }
 
-    private static void run(Random random) {
-        PictureLog x = new PictureLog();
-        if (random.nextBoolean()) {
-            x.setWay(random.nextInt(2));
-            x.setRoom(30 + random.nextInt(271));
-        }
+    private static void compare(Random random) {
+        List<Call> calls = first(random);
         boolean tame = random.nextInt(4) > 0;
-        int[] before = Told.by(x);
-        for (int i = 2; i < 512; i++) {
-            Method method = METHODS.get(random.nextInt(METHODS.size()));
-            int answer = call(x, method, random, tame, before[0]);
-            int[] after = Told.by(x);
-            if (answer < 0) {
-                String other = Told.difference(before, after);
-                check.holds(method.getName() + " answered " + answer + " and changed: " + other, other == null);
+        PictureLog x = Told.made(all(calls));
+        Told before = null;
+        while (calls.size() < 150) {
+            Call call = call(random, tame, x.count(0) - x.count(1), x.count(0));
+            int answer = call.on(x);
+            if (answer < 0 && before == null) {
+                before = Told.now(all(calls));
+            }
+            calls.add(call);
+            Told after = answer < 0 ? Told.now(all(calls)) : null;
+            if (after != null) {
+                String other = before.difference(after);
+                check.holds(call.method.getName() + " answered " + answer + " and changed: " + other, other == null);
             }
             before = after;
         }
     }
 
-    private static int call(PictureLog x, Method method, Random random, boolean tame, int next) {
+    private static Consumer<PictureLog> all(List<Call> calls) {
+        List<Call> made = List.copyOf(calls);
+        return x -> made.forEach(call -> call.on(x));
+    }
+
+    /** Some runs start with another way and another room. */
+    private static List<Call> first(Random random) {
+        List<Call> calls = new ArrayList<>();
+        if (random.nextBoolean()) {
+            for (Method method : METHODS) {
+                if (method.getName().equals("setWay")) {
+                    calls.add(new Call(method, new Object[] {random.nextInt(2)}));
+                } else if (method.getName().equals("setRoom")) {
+                    calls.add(new Call(method, new Object[] {30 + random.nextInt(random.nextBoolean() ? 20 : 271)}));
+                }
+            }
+        }
+        return calls;
+    }
+
+    /** What the answers are is free behind the 512th call; that the calls end is not. */
+    private static void goOn(Random random) {
+        PictureLog x = Told.made(all(first(random)));
+        boolean tame = random.nextInt(4) > 0;
+        int next = 0;
+        for (int i = 0; i < 3000; i++) {
+            int answer = call(random, tame, next - 20, next).on(x);
+            next = answer > next && answer < next + 30 ? answer : next;
+        }
+        check.holds("it ends", true);
+    }
+
+    private static Call call(Random random, boolean tame, int first, int next) {
+        Method method = METHODS.get(random.nextInt(METHODS.size()));
         Object[] args = new Object[method.getParameterCount()];
         for (int i = 0; i < args.length; i++) {
-            int number = tame && random.nextInt(20) > 0 ? tameNumber(random, next)
+            int number = tame && random.nextInt(20) > 0 ? tameNumber(random, first, next)
                     : NUMBERS[random.nextInt(NUMBERS.length)];
             args[i] = method.getParameterTypes()[i] == char.class ? sign(random, number) : (Object) number;
         }
-        try {
-            return (Integer) method.invoke(x, args);
-        } catch (InvocationTargetException | IllegalAccessException e) {
-            check.holds(method.getName() + List.of(args) + " threw " + e.getCause(), false);
-            return 0;
-        }
+        return new Call(method, args);
     }
 
-    private static int tameNumber(Random random, int next) {
-        return random.nextInt(3) == 0 ? Math.max(0, next - 1 - random.nextInt(20)) : random.nextInt(12);
+    private static int tameNumber(Random random, int first, int next) {
+        boolean entry = random.nextInt(3) == 0 && next > first;
+        return entry ? Math.max(0, first + random.nextInt(next - first)) : random.nextInt(12);
     }
 
     private static Object sign(Random random, int number) {

@@ -76,23 +76,21 @@ public final class ChangesTest {
     private static void fillErrors() {
         PictureLog x = withWay(0);
         x.fill(1, 0, 3, 4);
-        int[] before = Told.by(x);
         int[][] unknown = {{6, 0, 1, 2}, {-1, 0, 1, 2}, {0, 12, 12, 2}, {0, -1, 1, 2}, {0, 0, 12, 2},
             {0, 3, -1, 2}, {6, 3, 2, 10}, {0, 12, 0, 10}, {Integer.MIN_VALUE, 0, 0, 0},
             {Integer.MAX_VALUE, 0, 0, 0}, {0, Integer.MAX_VALUE, Integer.MIN_VALUE, 0}};
         for (int[] a : unknown) {
-            check.refused("fill, unknown", x, before, x.fill(a[0], a[1], a[2], a[3]), -1);
+            check.due("fill, unknown", x.fill(a[0], a[1], a[2], a[3]), -1);
         }
         int[][] bad = {{0, 3, 2, 2}, {0, 0, 1, 10}, {0, 0, 1, -1}, {0, 11, 0, 2},
             {0, 0, 0, Integer.MAX_VALUE}, {0, 0, 0, Integer.MIN_VALUE}};
         for (int[] a : bad) {
-            check.refused("fill, bad", x, before, x.fill(a[0], a[1], a[2], a[3]), -2);
+            check.due("fill, bad", x.fill(a[0], a[1], a[2], a[3]), -2);
         }
         fillTheRoom(x);
-        before = Told.by(x);
-        check.refused("fill, full", x, before, x.fill(0, 0, 1, 2), -3);
-        check.refused("fill, bad ahead of full", x, before, x.fill(0, 1, 0, 2), -2);
-        check.refused("fill, unknown ahead of full", x, before, x.fill(6, 0, 0, 2), -1);
+        check.due("fill, full", x.fill(0, 0, 1, 2), -3);
+        check.due("fill, bad ahead of full", x.fill(0, 1, 0, 2), -2);
+        check.due("fill, unknown ahead of full", x.fill(6, 0, 0, 2), -1);
     }
 
     /** Leaves less than 3 of the room, all of it taken by entries that are not flushed. */
@@ -120,20 +118,18 @@ public final class ChangesTest {
     private static void addErrors() {
         PictureLog x = withWay(0);
         x.fill(1, 0, 3, 4);
-        int[] before = Told.by(x);
         int[][] unknown = {{6, 0, 1, 2}, {-1, 0, 1, 2}, {0, 12, 12, 2}, {0, -1, 1, 2}, {0, 0, 12, 2},
             {0, 3, -1, 2}, {6, 3, 2, 0}, {0, 12, 0, 10}};
         for (int[] a : unknown) {
-            check.refused("add, unknown", x, before, x.add(a[0], a[1], a[2], a[3]), -1);
+            check.due("add, unknown", x.add(a[0], a[1], a[2], a[3]), -1);
         }
         int[][] bad = {{0, 3, 2, 2}, {0, 0, 1, 10}, {0, 0, 1, 0}, {0, 0, 1, -1}, {0, 0, 0, Integer.MIN_VALUE}};
         for (int[] a : bad) {
-            check.refused("add, bad", x, before, x.add(a[0], a[1], a[2], a[3]), -2);
+            check.due("add, bad", x.add(a[0], a[1], a[2], a[3]), -2);
         }
         fillTheRoom(x);
-        before = Told.by(x);
-        check.refused("add, full", x, before, x.add(0, 0, 1, 2), -3);
-        check.refused("add, bad ahead of full", x, before, x.add(0, 0, 1, 0), -2);
+        check.due("add, full", x.add(0, 0, 1, 2), -3);
+        check.due("add, bad ahead of full", x.add(0, 0, 1, 0), -2);
     }
 
     private static void turnAsItIs() {
@@ -153,17 +149,15 @@ public final class ChangesTest {
     private static void turnErrors() {
         PictureLog x = withWay(0);
         x.fill(1, 0, 3, 4);
-        int[] before = Told.by(x);
-        check.refused("turn(6, 1)", x, before, x.turn(6, 1), -1);
-        check.refused("turn(-1, 0)", x, before, x.turn(-1, 0), -1);
-        check.refused("turn(0, 0)", x, before, x.turn(0, 0), -2);
-        check.refused("turn(0, 12)", x, before, x.turn(0, 12), -2);
-        check.refused("turn(0, -1)", x, before, x.turn(0, -1), -2);
-        check.refused("turn(0, least)", x, before, x.turn(0, Integer.MIN_VALUE), -2);
+        check.due("turn(6, 1)", x.turn(6, 1), -1);
+        check.due("turn(-1, 0)", x.turn(-1, 0), -1);
+        check.due("turn(0, 0)", x.turn(0, 0), -2);
+        check.due("turn(0, 12)", x.turn(0, 12), -2);
+        check.due("turn(0, -1)", x.turn(0, -1), -2);
+        check.due("turn(0, least)", x.turn(0, Integer.MIN_VALUE), -2);
         fillTheRoom(x);
-        before = Told.by(x);
-        check.refused("turn, full", x, before, x.turn(0, 1), -3);
-        check.refused("turn, bad ahead of full", x, before, x.turn(0, 12), -2);
+        check.due("turn, full", x.turn(0, 1), -3);
+        check.due("turn, bad ahead of full", x.turn(0, 12), -2);
     }
 
     private static void renew() {
@@ -182,14 +176,12 @@ public final class ChangesTest {
         check.cells("renewed", x, 4, "010101000000");
         check.due("pictures so far", x.count(9), 3);
         check.due("changes so far", x.count(10), 3);
-        int[] before = Told.by(x);
-        check.refused("renew(6)", x, before, x.renew(6), -1);
-        check.refused("renew(-1)", x, before, x.renew(-1), -1);
+        check.due("renew(6)", x.renew(6), -1);
+        check.due("renew(-1)", x.renew(-1), -1);
         PictureLog y = withWay(0);
         fillTheRoom(y);
-        before = Told.by(y);
-        check.refused("renew, full", y, before, y.renew(0), -3);
-        check.refused("renew, unknown ahead of full", y, before, y.renew(6), -1);
+        check.due("renew, full", y.renew(0), -3);
+        check.due("renew, unknown ahead of full", y.renew(6), -1);
     }
 
     private static void wayOfPictures() {
@@ -271,18 +263,9 @@ public final class ChangesTest {
         for (int i = 0; i < 6; i++) {
             x.fill(1, i, i, 1);
         }
-        int[] before = Told.by(x);
-        check.refused("a row of 7 for 2 and 4", x, before, typed(x, "2r0=1234", before), -3);
+        check.due("a row of 7 for 2 and 4", Check.read(x, "2r0=1234"), -3);
         check.due("the oldest one stays", x.entry(0, 0), 0);
         check.due("a turn needs that it is dropped", x.turn(2, 1), 3);
         check.due("the oldest one is gone", x.entry(0, 0), -1);
-    }
-
-    /** Reads a text, and takes over its length, which is told too. */
-    private static int typed(PictureLog x, String text, int[] before) {
-        x.clearText();
-        Check.type(x, text);
-        before[13] = text.length();
-        return x.readOrders();
     }
 }

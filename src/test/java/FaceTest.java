@@ -9,7 +9,7 @@ import java.util.Set;
 import java.util.TreeSet;
 import java.util.regex.Pattern;
 
-/** The public face, the rules of LANGUAGE.md that can be seen from the text, and any call in any state. */
+/** The public face, and the rules of LANGUAGE.md that can be seen from the text. */
 public final class FaceTest {
     private static final Check check = new Check();
     private static final Set<String> FACE = new TreeSet<>(List.of(

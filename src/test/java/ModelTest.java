@@ -3,6 +3,8 @@ import java.util.Random;
 /** Random runs of 512 calls, each answer compared with that of the naive model. */
 public final class ModelTest {
     private static final int RUNS = 600;
+    /** More calls than the longest text of orders takes, so that a run has not more than 512. */
+    private static final int MOST_OF_ORDERS = 110;
     private static final int[] ODD = {Integer.MIN_VALUE, -100, -2, -1, 12, 13, 99, 300, Integer.MAX_VALUE};
     private static final String SIGNS = "0123456789fatrp;-=+01 x";
     private static final Check check = new Check();
@@ -40,7 +42,8 @@ public final class ModelTest {
     private boolean run() {
         while (left > 0) {
             int act = random.nextInt(100);
-            boolean alike = act < 55 ? tell() : act < 58 ? orders() : act(act);
+            boolean orders = act >= 55 && act < 58 && left > MOST_OF_ORDERS;
+            boolean alike = orders ? orders() : act < 58 ? tell() : act(act);
             if (!alike) {
                 System.out.println(calls);
                 return false;

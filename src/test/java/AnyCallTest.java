@@ -55,7 +55,8 @@ public final class AnyCallTest {
         PictureLog x = Told.made(all(calls));
         Told before = null;
         while (calls.size() < 150) {
-            Call call = call(random, tame, x.count(0) - x.count(1), x.count(0));
+            int next = x.count(0);
+            Call call = call(random, tame, next - x.count(1), next);
             int answer = call.on(x);
             if (answer < 0 && before == null) {
                 before = Told.now(all(calls));

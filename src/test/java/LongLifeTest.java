@@ -10,6 +10,8 @@ public final class LongLifeTest {
         orders();
         damagesAndCrashes();
         typingAlone();
+        crashesAlone();
+        changesAlone();
         untouched();
         check.end();
     }
@@ -60,7 +62,7 @@ public final class LongLifeTest {
             calls += 2;
         }
         check.due("calls", calls, 510);
-        check.due("the next entry", x.count(0), entries);
+        check.due("pictures so far", x.count(9), entries);
         check.due("the 512th call", x.entry(entries - 1, 0), 1);
     }
 
@@ -91,6 +93,25 @@ public final class LongLifeTest {
         for (int i = 0; i < MOST_CALLS; i++) {
             check.due("type", x.type('0'), i < 60 ? i + 1 : -3);
         }
+    }
+
+    private static void crashesAlone() {
+        PictureLog x = new PictureLog();
+        for (int i = 1; i < MOST_CALLS; i++) {
+            check.due("crash", x.crash(), 0);
+        }
+        check.due("the 512th call", x.count(11), 511);
+    }
+
+    private static void changesAlone() {
+        PictureLog x = new PictureLog();
+        x.setWay(0);
+        for (int i = 0; i < 170; i++) {
+            check.due("turn", x.turn(5, 1), 3);
+            check.due("flush", x.flush(), 1);
+            check.due("store", x.store(5), 1);
+        }
+        check.due("the 512th call", x.count(10), 170);
     }
 
     private static void untouched() {

@@ -1,5 +1,7 @@
 import java.util.ArrayList;
+import java.util.HashMap;
 import java.util.List;
+import java.util.Map;
 import java.util.function.Consumer;
 
 /**
@@ -105,6 +107,22 @@ final class Told {
                 add("asOf(" + page + ", " + entry + ", " + cell + ")", next().asOf(page, entry, cell));
             }
         }
+    }
+
+    /** The calls that both moments know, and that are answered in another way. */
+    List<String> changed(Told other) {
+        Map<String, String> theirs = new HashMap<>();
+        for (String answer : other.answers) {
+            theirs.put(answer.split(" = ")[0], answer);
+        }
+        List<String> changed = new ArrayList<>();
+        for (String answer : answers) {
+            String call = answer.split(" = ")[0];
+            if (!theirs.getOrDefault(call, answer).equals(answer)) {
+                changed.add(call);
+            }
+        }
+        return changed;
     }
 
     /** Tells a difference in words, or null without one. */

@@ -10,6 +10,7 @@ public final class ErrorsTest {
 
     public static void main(String[] args) {
         constants();
+        orderOfTheChecks();
         fillAndAdd();
         turn();
         renew();
@@ -27,11 +28,42 @@ public final class ErrorsTest {
 
     private static void constants() {
         check.sentence("Errors are reported by the constants below.");
+        check.sentence("`UNKNOWN = -1`: There is no such page, cell or entry in the log.");
         check.due("UNKNOWN", PictureLog.UNKNOWN, -1);
+        check.due("no such page", Told.made(Made.RICH).page(6, 0), PictureLog.UNKNOWN);
+        check.due("no such cell", Told.made(Made.RICH).cell(0, 12), PictureLog.UNKNOWN);
+        check.due("no such entry in the log", Told.made(Made.RICH).entry(0, 0), PictureLog.UNKNOWN);
+        check.sentence("`BAD_VALUE = -2`: Another argument is out of range.");
         check.due("BAD_VALUE", PictureLog.BAD_VALUE, -2);
+        check.due("another argument", Told.made(Made.RICH).page(0, 7), PictureLog.BAD_VALUE);
+        check.sentence("`FULL = -3`: There is no room in the log, or in the text.");
         check.due("FULL", PictureLog.FULL, -3);
+        check.due("in the log", Told.made(Made.PACKED).renew(0), PictureLog.FULL);
+        check.due("in the text", Told.made(Made.typed(Made.NEW, "p".repeat(60))).type('p'), PictureLog.FULL);
+        check.sentence("`NOT_POSSIBLE = -4`: This is not possible.");
         check.due("NOT_POSSIBLE", PictureLog.NOT_POSSIBLE, -4);
+        check.due("store(2)", Told.made(Made.PACKED).store(2), PictureLog.NOT_POSSIBLE);
+        check.sentence("`NONE = -5`: There is no such thing; not an error.");
         check.due("NONE", PictureLog.NONE, -5);
+        check.due("undo()", Told.made(Made.NEW).undo(), PictureLog.NONE);
+    }
+
+    /** One wrong argument more each time, from the last one to the first. */
+    private static void orderOfTheChecks() {
+        check.sentence("Where several errors can apply, the order of the @return line is the order of the checks.");
+        check.refused("no room", Made.PACKED, x -> x.fill(0, 0, 0, 0), -3);
+        check.refused("a bad value, no room", Made.PACKED, x -> x.fill(0, 0, 0, 10), -2);
+        check.refused("to less than from, no room", Made.PACKED, x -> x.fill(0, 1, 0, 0), -2);
+        check.refused("no cell, a bad value, no room", Made.PACKED, x -> x.fill(0, 1, -1, 10), -1);
+        check.refused("no page, a bad value, no room", Made.PACKED, x -> x.turn(6, 12), -1);
+        check.refused("a fault, no room", Made.typed(Made.PACKED, "2t1;"), PictureLog::readOrders, -104);
+        check.refused("no page, not flushed", Made.PACKED, x -> x.store(6), -1);
+        check.refused("no entry, a bad value", Made.PACKED, x -> x.entry(10, 7), -1);
+        check.refused("no page, a bad value", Made.PACKED, x -> x.page(6, 7), -1);
+        check.refused("no page, a bad value", Made.PACKED, x -> x.wouldLog(6, 10), -1);
+        Consumer<PictureLog> damaged = Made.PACKED.andThen(x -> x.damage(0));
+        check.refused("a damaged entry", damaged, x -> x.asOf(2, 0, 0), -4);
+        check.refused("no cell, a damaged entry", damaged, x -> x.asOf(2, 0, 12), -1);
     }
 
     private static void fillAndAdd() {

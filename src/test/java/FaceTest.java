@@ -7,6 +7,7 @@ import java.nio.file.Path;
 import java.util.List;
 import java.util.Set;
 import java.util.TreeSet;
+import java.util.regex.Matcher;
 import java.util.regex.Pattern;
 
 /** The public face, and the rules of LANGUAGE.md that can be seen from the text. */
@@ -25,7 +26,24 @@ public final class FaceTest {
         methods();
         classesInside();
         source();
+        sections();
         check.end();
+    }
+
+    /** What the interface says ahead of which calls, in its order. */
+    private static void sections() throws IOException {
+        Pattern told = Pattern.compile("^ {4}(?:// (---- [a-z ]+)|public int (\\w+)\\(.*)$", Pattern.MULTILINE);
+        StringBuilder found = new StringBuilder();
+        Matcher line = told.matcher(Files.readString(Path.of("src/main/java/PictureLog.java")));
+        while (line.find()) {
+            found.append(line.group(1) != null ? line.group(1) + ":" : line.group(2)).append(' ');
+        }
+        String[] wanted = {"---- changes: fill add turn renew readOrders ",
+            "---- log and store: setWay setRoom flush store trim damage crash ", "---- texts: type clearText ",
+            "---- history: undo keep restore ",
+            "---- what is told: cell page stored entry asOf wouldLog bestRenewed count "};
+        check.sentence("the interface says");
+        check.holds("its order: " + found, found.toString().equals(String.join("", wanted)));
     }
 
     private static void constants() throws IllegalAccessException {

@@ -165,6 +165,12 @@ public final class TextTest {
     }
 
     private static void secondCellNotLess() {
+        check.sentence("(the cells from the first one to the second one are filled; the second one is not less than the "
+                + "first one)");
+        PictureLog x = new PictureLog();
+        Check.read(x, "0f2-10=7;1f3-3=8");
+        check.cells("from 2 to 10", x, 0, "007777777770");
+        check.cells("from 3 to 3", x, 1, "000800000000");
         check.sentence("(the last digit of a cell that is less than the one ahead of it, too, also if the text just ends "
                 + "behind it)");
         for (int first = 0; first <= 11; first++) {

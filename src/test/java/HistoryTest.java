@@ -1,3 +1,4 @@
+import java.util.List;
 import java.util.function.Consumer;
 
 /** Sentences of the Terms' HISTORY, and of the promises 16 to 18, that name a bound. */
@@ -18,6 +19,7 @@ public final class HistoryTest {
         snapshotStays();
         stateIsAllButThree();
         stateIsWhole();
+        everyCellAndEveryPlace();
         check.end();
     }
 
@@ -345,5 +347,51 @@ public final class HistoryTest {
         Told acted = Told.now(made.andThen(changed).andThen(y -> y.renew(5)).andThen(PictureLog::undo));
         String undone = acted.difference(Told.now(restored.andThen(PictureLog::undo)));
         check.holds("the restoring is undone, but " + undone, undone == null);
+    }
+
+    /** All cells of all pages differ from those of their copies, and all 100 places of the log are taken. */
+    private static void everyCellAndEveryPlace() {
+        check.sentence("A state is everything but the text, the history and the snapshot.");
+        Consumer<PictureLog> made = x -> {
+            x.setWay(0);
+            x.setRoom(300);
+            for (int page = 0; page < 6; page++) {
+                Check.read(x, page + "r0=012345678901");
+            }
+            x.flush();
+            for (int page = 0; page < 6; page++) {
+                x.store(page);
+            }
+            x.trim();
+            for (int i = 0; i < 100; i++) {
+                x.turn(i % 6, 1);
+            }
+        };
+        Consumer<PictureLog> other = x -> {
+            x.flush();
+            for (int page = 0; page < 6; page++) {
+                x.store(page);
+            }
+            x.trim();
+            for (int page = 0; page < 6; page++) {
+                x.fill(page, 0, 11, 9);
+            }
+        };
+        Told told = Told.now(made);
+        sameAs(told, "crash()", made.andThen(PictureLog::crash).andThen(PictureLog::undo));
+        for (int page = 0; page < 6; page++) {
+            int stored = page;
+            sameAs(told, "store(" + page + ")", made.andThen(PictureLog::flush).andThen(x -> x.store(stored))
+                    .andThen(PictureLog::undo).andThen(PictureLog::undo));
+        }
+        sameAs(told, "keep()", made.andThen(PictureLog::keep).andThen(other).andThen(PictureLog::restore));
+        sameAs(told, "restore()", made.andThen(PictureLog::keep).andThen(other).andThen(PictureLog::restore)
+                .andThen(other).andThen(PictureLog::restore));
+    }
+
+    private static void sameAs(Told told, String act, Consumer<PictureLog> calls) {
+        List<String> changed = told.changed(Told.now(calls));
+        changed.remove("count(12)");
+        check.holds("all is brought back behind " + act + ", but for " + changed, changed.isEmpty());
     }
 }

@@ -13,6 +13,7 @@ public final class LongLifeTest {
         crashesAlone();
         changesAlone();
         untouched();
+        numbersBeyondTheRoom();
         check.end();
     }
 
@@ -120,5 +121,41 @@ public final class LongLifeTest {
             check.due("count", x.count(3), 100);
         }
         check.due("the 512th call", x.fill(5, 11, 11, 9), 0);
+    }
+
+    /** Entries keep their numbers, and the numbers go far beyond all that the log could ever hold. */
+    private static void numbersBeyondTheRoom() {
+        PictureLog x = new PictureLog();
+        x.setWay(0);
+        x.setRoom(300);
+        Check.type(x, "0p;1p;2p;3p;4p;5p;0p;1p;2p;3p;4p;5p;0p;1p;2p;3p;4p;5p;0p;1p");
+        for (int i = 0; i < 20; i++) {
+            check.due("readOrders()", x.readOrders(), 20);
+            check.due("flush()", x.flush(), 20);
+        }
+        for (int page = 0; page < 6; page++) {
+            check.due("store()", x.store(page), 1);
+        }
+        check.due("all that the log holds is dropped", x.trim(), 75);
+        check.due("fill(1, 0, 3, 5)", x.fill(1, 0, 3, 5), 1);
+        check.due("turn(1, 1)", x.turn(1, 1), 3);
+        check.due("renew(2)", x.renew(2), 402);
+        check.tells("page 1", x, (y, what) -> y.page(1, what), 28, 2, 400, 400, 0, 0, 8);
+        check.tells("page 2", x, (y, what) -> y.page(2, what), 4, 1, 402, 400, 0, 0, 4);
+        check.tells("entry 401", x, (y, what) -> y.entry(401, what), 1, 3, 3, 15, 1, 0, 0);
+        check.tells("count", x, PictureLog::count, 403, 3, 11, 300, 0, 3, 3, 52, 0, 401, 2, 0, 4, 59);
+        check.cellsAsOf(x, 1, 400, "555500000000");
+        check.cellsAsOf(x, 1, 402, "055550000000");
+        check.due("not flushed", x.store(1), -4);
+        check.due("another page", x.store(3), 0);
+        check.due("flush()", x.flush(), 3);
+        check.due("damage(401)", x.damage(401), 1);
+        check.due("a damaged entry", x.asOf(1, 401, 0), -4);
+        check.due("crash()", x.crash(), 0);
+        check.cells("ahead of the damaged entry", x, 1, "555500000000");
+        check.due("doubtful", x.page(1, 4), 1);
+        check.due("store(1)", x.store(1), 2);
+        check.due("trim()", x.trim(), 2);
+        check.due("the oldest one", x.entry(402, 4), 1);
     }
 }
